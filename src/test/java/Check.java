@@ -1,0 +1,58 @@
+/** Counts the answers of one test that are not as due. */
+final class Check {
+    /** A call that may throw. */
+    interface Call {
+        void run();
+    }
+
+    private final String name;
+    private int wrong = 0;
+    private int seen = 0;
+
+    Check(String name) {
+        this.name = name;
+    }
+
+    void due(String call, long got, long want) {
+        seen++;
+        if (got != want) {
+            report(call + " answered " + got + ", due is " + want);
+        }
+    }
+
+    void due(String call, boolean got, boolean want) {
+        due(call, got ? 1 : 0, want ? 1 : 0);
+    }
+
+    void due(String call, String got, String want) {
+        seen++;
+        if (!got.equals(want)) {
+            report(call + " answered\n  " + got + "\ndue is\n  " + want);
+        }
+    }
+
+    void dueThrow(String call, Class<? extends RuntimeException> want, Call tried) {
+        seen++;
+        Class<?> got = null;
+        try {
+            tried.run();
+        } catch (RuntimeException e) {
+            got = e.getClass();
+        }
+        if (got != want) {
+            report(call + " threw " + got + ", due is " + want);
+        }
+    }
+
+    void end() {
+        System.out.println(name + ": " + seen + " answers, " + wrong + " not as due");
+        if (wrong != 0 || seen == 0) {
+            System.exit(1);
+        }
+    }
+
+    private void report(String text) {
+        wrong++;
+        System.out.println(name + ": " + text);
+    }
+}
