@@ -310,7 +310,7 @@ public final class FilmPlayer {
 
         boolean holdsFrame(int frame) {
             int first = frame * PACKETS_OF_FRAME;
-            return holds(first) && holds(first + 1) && holds(first + 2);
+            return frame >= 0 && frame < FRAMES && had[first] && had[first + 1] && had[first + 2];
         }
 
         /**

@@ -194,7 +194,6 @@ public final class RingTest {
     }
 
     private static void patienceRestartsWithTheNextFirst() {
-        // polling leaves some behind, and these keep the ticks at which they came
         FilmPlayer x = new FilmPlayer();
         x.set(32, 32, 3, 1);
         x.arrive(0);
