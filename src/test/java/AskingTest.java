@@ -15,13 +15,6 @@ public final class AskingTest {
         CHECK.end();
     }
 
-    /** A player whose driver takes all at the very tick. */
-    private static FilmPlayer quick() {
-        FilmPlayer x = new FilmPlayer();
-        x.set(32, 1, 50, 32);
-        return x;
-    }
-
     private static void hadOnlyWhenTaken() {
         FilmPlayer x = new FilmPlayer();
         x.arrive(0);
@@ -40,7 +33,7 @@ public final class AskingTest {
     }
 
     private static void askedByRisingNumbers() {
-        FilmPlayer x = quick();
+        FilmPlayer x = Players.quick();
         x.arrive(7);
         x.arrive(3);
         x.arrive(5);
@@ -55,7 +48,7 @@ public final class AskingTest {
     }
 
     private static void askedOnce() {
-        FilmPlayer x = quick();
+        FilmPlayer x = Players.quick();
         x.arrive(3);
         x.advance(10);
         CHECK.due("asked", x.asked(), 3);
@@ -71,7 +64,7 @@ public final class AskingTest {
     }
 
     private static void askedBelowTheHighestOnly() {
-        FilmPlayer x = quick();
+        FilmPlayer x = Players.quick();
         x.arrive(0);
         x.advance(1);
         CHECK.due("asked below 0", x.asked(), 0);
@@ -110,16 +103,9 @@ public final class AskingTest {
         CHECK.due("askedAt 0", x.askedAt(0), 6);
     }
 
-    /** Frames 0 to 2 at the tick 0; the turns are at 0, 10, 21, 32, 43. */
-    private static FilmPlayer begun() {
-        FilmPlayer x = quick();
-        x.arriveRow(0, 9);
-        x.advance(1);
-        return x;
-    }
-
+    /** The turns are at 0, 10, 21, 32, 43. */
     private static void notAskedBehindItsTurn() {
-        FilmPlayer x = begun();
+        FilmPlayer x = Players.begun(9);
         x.advance(32);
         CHECK.due("tick", x.tick(), 33);
         CHECK.due("next", x.next(), 4);
@@ -131,7 +117,7 @@ public final class AskingTest {
     }
 
     private static void askedAheadOfTheTurnOfThatTick() {
-        FilmPlayer x = begun();
+        FilmPlayer x = Players.begun(9);
         x.advance(31);
         CHECK.due("tick", x.tick(), 32);
         CHECK.due("turn", x.turn(), 32);
@@ -143,7 +129,7 @@ public final class AskingTest {
     }
 
     private static void notAskedBehindTheFilm() {
-        FilmPlayer x = begun();
+        FilmPlayer x = Players.begun(9);
         for (int k = 0; k < 11; k++) {
             x.advance(100);
         }
@@ -155,7 +141,7 @@ public final class AskingTest {
     }
 
     private static void resetAsksForNothing() {
-        FilmPlayer x = quick();
+        FilmPlayer x = Players.quick();
         x.arrive(9);
         x.reset();
         x.advance(1);

@@ -5,12 +5,28 @@ final class Check {
         void run();
     }
 
+    private static final long MOST_MILLIS = 120_000;
+
     private final String name;
     private int wrong = 0;
     private int seen = 0;
 
     Check(String name) {
         this.name = name;
+        Thread watch = new Thread(this::endLate);
+        watch.setDaemon(true);
+        watch.start();
+    }
+
+    /** A call that does not end must fail the test, not hold it up. */
+    private void endLate() {
+        try {
+            Thread.sleep(MOST_MILLIS);
+        } catch (InterruptedException e) {
+            return;
+        }
+        System.out.println(name + ": a call does not end");
+        Runtime.getRuntime().halt(1);
     }
 
     void due(String call, long got, long want) {

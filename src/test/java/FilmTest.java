@@ -21,20 +21,6 @@ public final class FilmTest {
         CHECK.end();
     }
 
-    /** A player whose driver takes all at the very tick. */
-    private static FilmPlayer quick() {
-        FilmPlayer x = new FilmPlayer();
-        x.set(32, 1, 50, 32);
-        return x;
-    }
-
-    private static FilmPlayer begun(int packets) {
-        FilmPlayer x = quick();
-        x.arriveRow(0, packets);
-        x.advance(1);
-        return x;
-    }
-
     private static void dueFates(FilmPlayer x, String due) {
         StringBuilder got = new StringBuilder();
         for (int frame = 0; frame < due.length(); frame++) {
@@ -68,7 +54,7 @@ public final class FilmTest {
 
     private static void wholeFrames() {
         for (int missing = 0; missing < 3; missing++) {
-            FilmPlayer x = quick();
+            FilmPlayer x = Players.quick();
             for (int packet = 294; packet < 300; packet++) {
                 if (packet != 297 + missing) {
                     x.arrive(packet);
@@ -86,7 +72,7 @@ public final class FilmTest {
     }
 
     private static void beginsWithThreeFrames() {
-        FilmPlayer x = quick();
+        FilmPlayer x = Players.quick();
         x.arriveRow(0, 8);
         x.arriveRow(9, 20);
         x.advance(30);
@@ -107,7 +93,7 @@ public final class FilmTest {
         CHECK.due("couldBe", x.couldBe(), 1);
 
         for (int missing = 0; missing < 9; missing++) {
-            FilmPlayer y = quick();
+            FilmPlayer y = Players.quick();
             for (int packet = 0; packet < 12; packet++) {
                 if (packet != missing) {
                     y.arrive(packet);
@@ -119,7 +105,7 @@ public final class FilmTest {
     }
 
     private static void beginsLate() {
-        FilmPlayer x = quick();
+        FilmPlayer x = Players.quick();
         x.advance(100);
         x.arriveRow(0, 9);
         x.advance(1);
@@ -134,14 +120,14 @@ public final class FilmTest {
     }
 
     private static void takenAtTheTickOfTheTurn() {
-        FilmPlayer x = begun(9);
+        FilmPlayer x = Players.begun(9);
         x.advance(31);
         CHECK.due("turn", x.turn(), 32);
         CHECK.due("tick", x.tick(), 32);
         x.arriveRow(9, 3);
         x.advance(1);
         CHECK.due("fate 3, taken at that tick", x.fate(3), FilmPlayer.SHOWN);
-        x = begun(9);
+        x = Players.begun(9);
         x.advance(32);
         x.arriveRow(9, 3);
         x.advance(1);
@@ -153,7 +139,7 @@ public final class FilmTest {
         int[] fills = {2, 3, 4, 5, 6, 7, 9};
         int[] turns = {10, 10, 10, 10, 9, 9, 9};
         for (int k = 0; k < packets.length; k++) {
-            FilmPlayer x = begun(packets[k]);
+            FilmPlayer x = Players.begun(packets[k]);
             CHECK.due("fill of " + packets[k], x.fill(), fills[k]);
             CHECK.due("turn with a fill of " + fills[k], x.turn(), turns[k]);
             CHECK.due("gap with a fill of " + fills[k], x.gap(), turns[k] - 10);
@@ -161,7 +147,7 @@ public final class FilmTest {
     }
 
     private static void paceOfLittle() {
-        FilmPlayer x = begun(9);
+        FilmPlayer x = Players.begun(9);
         CHECK.due("fill 2: turn", x.turn(), 10);
         x.advance(10);
         CHECK.due("fill", x.fill(), 1);
@@ -174,7 +160,7 @@ public final class FilmTest {
     }
 
     private static void paceLooksAtThatTick() {
-        FilmPlayer x = begun(9);
+        FilmPlayer x = Players.begun(9);
         x.arriveRow(9, 21);
         x.advance(1);
         CHECK.due("fill", x.fill(), 9);
@@ -184,7 +170,7 @@ public final class FilmTest {
     }
 
     private static void fillStopsAtAHole() {
-        FilmPlayer x = quick();
+        FilmPlayer x = Players.quick();
         x.arriveRow(0, 13);
         x.arriveRow(15, 15);
         x.advance(1);
@@ -193,14 +179,14 @@ public final class FilmTest {
         x.arrive(14);
         x.advance(1);
         CHECK.due("fill", x.fill(), 9);
-        x = quick();
+        x = Players.quick();
         x.arriveRow(3, 30);
         x.advance(1);
         CHECK.due("fill without the frame 0", x.fill(), 0);
     }
 
     private static void wholeFilm() {
-        FilmPlayer x = quick();
+        FilmPlayer x = Players.quick();
         for (int row = 0; row < 10; row++) {
             x.arriveRow(30 * row, 30);
             x.advance(1);
@@ -244,7 +230,7 @@ public final class FilmTest {
     }
 
     private static void fatesBehindALackingKey() {
-        FilmPlayer x = quick();
+        FilmPlayer x = Players.quick();
         x.arriveRow(0, 18);
         x.arriveRow(19, 13);
         x.advance(1);
@@ -264,7 +250,7 @@ public final class FilmTest {
     }
 
     private static void fatesBehindALackingStep() {
-        FilmPlayer x = quick();
+        FilmPlayer x = Players.quick();
         x.arriveRow(0, 9);
         x.arriveRow(12, 15);
         x.advance(90);
@@ -286,7 +272,7 @@ public final class FilmTest {
 
     private static void lateNeedsHelpOnlyCouldBe() {
         // the KEY 6 is whole after its own turn, and ahead of those of 7 to 11
-        FilmPlayer x = quick();
+        FilmPlayer x = Players.quick();
         x.arriveRow(0, 18);
         x.arriveRow(19, 13);
         x.advance(1);
@@ -300,13 +286,13 @@ public final class FilmTest {
     }
 
     private static void couldBeCountsTurnsOnly() {
-        FilmPlayer x = begun(30);
+        FilmPlayer x = Players.begun(30);
         CHECK.due("couldBe", x.couldBe(), 1);
         x.advance(9);
         CHECK.due("couldBe", x.couldBe(), 2);
 
         // a late KEY alone: its STEP and what leans on that is not whole
-        x = begun(9);
+        x = Players.begun(9);
         x.advance(100);
         CHECK.due("next", x.next(), 10);
         CHECK.due("couldBe", x.couldBe(), 1);
@@ -319,7 +305,7 @@ public final class FilmTest {
     }
 
     private static void endOfALackingFilm() {
-        FilmPlayer x = begun(9);
+        FilmPlayer x = Players.begun(9);
         for (int k = 0; k < 10; k++) {
             x.advance(100);
         }
