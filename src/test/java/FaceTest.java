@@ -1,13 +1,23 @@
+import java.io.IOException;
 import java.lang.reflect.Constructor;
 import java.lang.reflect.Field;
 import java.lang.reflect.Member;
 import java.lang.reflect.Method;
 import java.lang.reflect.Modifier;
+import java.nio.file.Files;
+import java.nio.file.Path;
+import java.util.ArrayList;
 import java.util.Arrays;
+import java.util.List;
 import java.util.Set;
 import java.util.TreeSet;
+import java.util.regex.Matcher;
+import java.util.regex.Pattern;
 
-/** The public face: the class, its constants, constructor and methods, and nothing else. */
+/**
+ * The public face: the class, its constants, constructor and methods, and nothing else; and the
+ * source beside the document: each line of the face as it is printed there, in its order.
+ */
 public final class FaceTest {
     private static final String[] METHODS = {
         "void set(int,int,int,int) IllegalArgumentException",
@@ -37,14 +47,26 @@ public final class FaceTest {
         "NONE -1", "KEY 0", "STEP 1", "BETWEEN 2", "TO_COME 0", "SHOWN 1", "LACKING 2", "NEEDY 3",
     };
 
+    private static final Path DOCUMENT = Path.of("../shared/DOC.md");
+    private static final Path SOURCE = Path.of("src/main/java/FilmPlayer.java");
+    private static final Pattern FACE = Pattern.compile("(?s)## The public face\\s+```java\n(.*?)```");
+    private static final Pattern HEADING =
+        Pattern.compile("Ahead of the calls (`[^.]*`) the interface says: (---- [^\n]*)\\.\n");
+    private static final Pattern PUBLIC_LINE = Pattern.compile("(?m)^ *(public [^\n]*?)( \\{|;)$");
+    private static final Pattern METHOD_NAME = Pattern.compile("(\\w+)\\(");
+
     private static final Check CHECK = new Check("FaceTest");
 
-    public static void main(String[] args) throws IllegalAccessException {
+    public static void main(String[] args) throws IllegalAccessException, IOException {
         int wanted = Modifier.PUBLIC | Modifier.FINAL;
         CHECK.due("public and final", FilmPlayer.class.getModifiers() & wanted, wanted);
         checkConstructors();
         checkMethods();
         checkFields();
+        String document = Files.readString(DOCUMENT);
+        String source = Files.readString(SOURCE);
+        checkPrintedLines(document, source);
+        checkHeadings(document, source);
         CHECK.end();
     }
 
@@ -105,5 +127,51 @@ public final class FaceTest {
             text.append(' ').append(thrown.getSimpleName());
         }
         return text.toString();
+    }
+
+    /** "every constant, constructor and method as printed there, and no other" */
+    private static void checkPrintedLines(String document, String source) {
+        Matcher face = FACE.matcher(document);
+        CHECK.due("the document prints the face", face.find(), true);
+        List<String> due = publicLines(face.group(1));
+        // the class, 3 lines of constants, the constructor, the methods
+        CHECK.due("lines of the face", due.size(), 1 + 3 + 1 + METHODS.length);
+        CHECK.due("the face as printed", String.join("\n", publicLines(source)), String.join("\n", due));
+    }
+
+    private static List<String> publicLines(String text) {
+        List<String> lines = new ArrayList<>();
+        Matcher line = PUBLIC_LINE.matcher(text);
+        while (line.find()) {
+            lines.add(line.group(1));
+        }
+        return lines;
+    }
+
+    /** "Ahead of the calls .. the interface says: ---- ..": those calls stand behind it, and no others. */
+    private static void checkHeadings(String document, String source) {
+        Matcher heading = HEADING.matcher(document);
+        int headings = 0;
+        while (heading.find()) {
+            headings++;
+            String said = heading.group(2);
+            int from = source.indexOf("// " + said + "\n");
+            CHECK.due("the heading " + said + " stands", from >= 0, true);
+            int next = source.indexOf("// ----", from + 1);
+            String part = source.substring(Math.max(0, from), next < 0 ? source.length() : next);
+            CHECK.due("calls behind " + said, methodNames(part), heading.group(1).replace("`", ""));
+        }
+        CHECK.due("headings", headings, 3);
+    }
+
+    private static String methodNames(String text) {
+        List<String> names = new ArrayList<>();
+        for (String line : publicLines(text)) {
+            Matcher name = METHOD_NAME.matcher(line);
+            if (name.find()) {
+                names.add(name.group(1));
+            }
+        }
+        return String.join(", ", names);
     }
 }
