@@ -44,7 +44,7 @@ public final class ReadmeTest {
         Files.copy(SOURCE, PLACE.resolve(SOURCE), StandardCopyOption.REPLACE_EXISTING);
         Files.writeString(PLACE.resolve("Example.java"), example);
         Process run = new ProcessBuilder("sh", "-e", "-c", commands)
-            .directory(PLACE.toFile()).redirectErrorStream(true).start();
+            .directory(PLACE.toFile()).redirectError(ProcessBuilder.Redirect.INHERIT).start();
         String printed = new String(run.getInputStream().readAllBytes());
         CHECK.due("the example's exit code", run.waitFor(), 0);
         CHECK.due("the example", printed, output);
